@@ -235,7 +235,7 @@ public final class AskAnotherFirst {
       return no;
     }
     exploreFrom(person, BY_SOONEST, ANY_TIME);
-    return allWays.personsOnAll();
+    return allWays.onAll;
   }
 
   public int took(int person, int time, int what) {
@@ -247,7 +247,7 @@ public final class AskAnotherFirst {
       return refuse(BELOW);
     }
     exploreFrom(person, BY_SOONEST, time);
-    return what == 0 ? allWays.many : allWays.personsOnAll();
+    return what == 0 ? allWays.many : allWays.onAll;
   }
 
   // ---- What would be, if something were otherwise.
@@ -536,11 +536,6 @@ public final class AskAnotherFirst {
     private int length;
     private int holders;
 
-    Way() {
-      length = 0;
-      holders = 0;
-    }
-
     void clear() {
       length = 0;
       holders = 0;
@@ -583,11 +578,6 @@ public final class AskAnotherFirst {
     private int bestTime;
     private int bestRight;
 
-    AllWays() {
-      order = BY_SOONEST;
-      wantedTime = ANY_TIME;
-    }
-
     void begin(int byOrder, int time) {
       order = byOrder;
       wantedTime = time;
@@ -622,21 +612,12 @@ public final class AskAnotherFirst {
       }
       return now.length > best.length || now.length == best.length && time > bestTime;
     }
-
-    int personsOnAll() {
-      return many == 0 ? 0 : onAll;
-    }
   }
 
   /** Who has the question of a TREE, and the MINUTES of it one way. */
   private static final class Spread {
     private int holders;
     private int minutes;
-
-    Spread() {
-      holders = 0;
-      minutes = 0;
-    }
   }
 
   /** All that an image keeps; also what is thought of in mind, without the town being changed. */
@@ -655,11 +636,6 @@ public final class AskAnotherFirst {
     private int asked;
     private int time;
     private int day;
-
-    Town() {
-      persons = 0;
-      law = 0;
-    }
 
     void become(Town other) {
       System.arraycopy(other.askers, 0, askers, 0, MOST_PERSONS);
@@ -888,12 +864,6 @@ public final class AskAnotherFirst {
     private int place;
     // No TOWN can go on with what stands at the place.
     private boolean stuck;
-
-    Letters() {
-      length = 0;
-      place = 0;
-      stuck = false;
-    }
 
     boolean isFull() {
       return length >= MOST_LETTERS;

@@ -9,6 +9,7 @@ public final class RunTest {
     doubtAndWrong();
     laws();
     kinOfThoseAsked();
+    threeOfAKin();
     shortUnderStop();
     nothingChanges();
     refusals();
@@ -120,6 +121,16 @@ public final class RunTest {
     CHECK.due("one", Check.run(x, 0), 1012);
   }
 
+  private static void threeOfAKin() {
+    String three = "pnb1,7;pnb2,7;pnb3,7;pnb4,0;";
+    for (int asked = 0; asked < 3; asked++) {
+      AskAnotherFirst x = CHECK.told(three, "a30,1;a31,1;a32,1;l1;");
+      CHECK.due("may, nobody asked", x.may(3), 7);
+      x.ask(asked);
+      CHECK.due("may, " + asked + " asked", x.may(3), 0);
+    }
+  }
+
   private static void shortUnderStop() {
     // 2 has three behind him, but when it is his the question has come to three others.
     AskAnotherFirst x = CHECK.told("pnb0,0;pnb0,0;psb0,0;pnb0,0;pnb0,0;pnb0,0;",
@@ -135,8 +146,9 @@ public final class RunTest {
 
   private static void nothingChanges() {
     AskAnotherFirst x = hub("l");
+    CHECK.due("runOf, the first call", x.runOf(0, 1), 5);
     CHECK.due("run", x.run(0, 2), 3);
-    CHECK.due("runOf", x.runOf(0, 0), 0);
+    CHECK.due("runOf of another", x.runOf(1, 1), 6);
     CHECK.due("nobody asked", x.count(2), 0);
     CHECK.due("no time", x.count(3), 0);
     CHECK.due("ask(5)", x.ask(5), 50);

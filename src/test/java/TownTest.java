@@ -137,6 +137,7 @@ public final class TownTest {
     fault("l5;", -2000);
     fault("l9;", -2000);
     fault("l4;l5;", -2003);
+    fault("l5;l6;", -2000);
     fault("pnb101,0;", -2000);
     fault("pnb999,0;", -2000);
     fault("a01,0;", -2000);

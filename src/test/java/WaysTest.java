@@ -3,6 +3,7 @@ public final class WaysTest {
   private static final Check CHECK = new Check("WaysTest");
 
   public static void main(String[] args) {
+    alwaysOfAnew();
     likeWays();
     unlikeWays();
     everybodyAsksEverybody();
@@ -10,6 +11,13 @@ public final class WaysTest {
     askersDoNotCount();
     refusals();
     CHECK.end();
+  }
+
+  private static void alwaysOfAnew() {
+    AskAnotherFirst x = CHECK.told("pnb1,0;pnb1,0;pnb1,0;a01,1;b12,1;");
+    CHECK.due("always(0), the first call", x.always(0), 7);
+    CHECK.due("always(1), another's", x.always(1), 6);
+    CHECK.due("took(0, 2, 1), no such time", x.took(0, 2, 1), 0);
   }
 
   private static void likeWays() {

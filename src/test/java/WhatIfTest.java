@@ -19,6 +19,8 @@ public final class WhatIfTest {
     CHECK.due("only 2 is an other", x.foe(1), 2);
     CHECK.due("none other on the way", x.foe(2), -9);
     CHECK.due("none other on the way", x.foe(3), -9);
+    AskAnotherFirst w = CHECK.told("pnm80,0;pnm0,0;pnm0,0;a10,1;a21,1;");
+    CHECK.due("0 makes 20 of 80", w.foe(2), 0);
     AskAnotherFirst y = CHECK.told("pnm0,0;pnm0,0;pnm50,0;a01,1;a12,1;");
     CHECK.due("like now", y.foe(0), -9);
     AskAnotherFirst z = CHECK.told("pnm0,0;pnd10,0;pnm80,0;a01,1;a12,1;");

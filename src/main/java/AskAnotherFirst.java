@@ -13,6 +13,7 @@ public final class AskAnotherFirst {
   private static final int MOST_OF_ROW = 9;
   private static final int MOST_DAYS = 30;
   private static final int TREE_HANDS = 2;
+  private static final int ALL_BUT_SIGN = 0x7fffffff;
 
   // The REFUSALS, and the answer where there is none such.
   private static final int NOBODY = -1;
@@ -361,7 +362,7 @@ public final class AskAnotherFirst {
     int together = 0;
     for (int done = 0; done < n; done++) {
       seed = seed * 1664525 + 1013904223;
-      int first = (seed & Integer.MAX_VALUE) / 256 % inMind.persons;
+      int first = (seed & ALL_BUT_SIGN) / 256 % inMind.persons;
       inMind.follow(first, way);
       together += inMind.rightOf(way);
     }
